@@ -11,7 +11,7 @@ public final class ModelTest {
     private static final int RUNS = 4000;
     private static final int SHORT_ROW = 8;
     // With its set-up and the reading of all at its end, a run stays below the 512 calls of an object.
-    private static final int CALLS_OF_SHORT_ROWS = 380;
+    private static final int CALLS_OF_SHORT_ROWS = 300;
     private static final int CALLS_OF_LONG_ROWS = 130;
     private static final int NOTHING = -1;
 

@@ -377,6 +377,9 @@ public final class PromisesTest {
         due("from pearls to beads", x.move(1, 0, 0, 0, 6), 0);
         holds(x, 0, 0, NONE, 2, 0, NONE, 2);
         tells(x, 6, 0, 0, 1, 3, 3);
+        due("no more than n, though a pearl lies behind", x.move(0, 2, 1, 3, 1), 0);
+        holds(x, 1, 0, NONE, 2, 2, NONE, 2);
+        tells(x, 1, 0, 0, 1, 3, 4);
         x.make(2, 7, 6);
         due("nothing may come to beads", x.move(2, 0, 0, 0, 6), 0);
         due("nothing may come to pearls", x.move(2, 0, 1, 0, 6), 0);
@@ -702,6 +705,9 @@ public final class PromisesTest {
             due("rack " + rack, x.alike(rack, 0), NONE);
             due("rack " + rack, x.alike(0, rack), NONE);
         }
+        x.make(0, 4, 3);
+        x.make(1, 2, 5);
+        due("what a row hasn't is not a 0", x.alike(0, 1), 3);
         fill(x, 4, 6, 0, 5, 0);
         fill(x, 7, 6, 0, -5, 1);
         due("truths", x.alike(4, 7), 2);
