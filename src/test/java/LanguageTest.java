@@ -69,56 +69,77 @@ public final class LanguageTest {
         return names;
     }
 
+    private static boolean isClosed(int modifiers) {
+        return !Modifier.isPublic(modifiers) && !Modifier.isProtected(modifiers);
+    }
+
     private static void classesInside() {
         Class<?>[] inside = BeadLoom.class.getDeclaredClasses();
         check(inside.length <= 11, "at most twelve classes");
         for (Class<?> c : inside) {
             check(Modifier.isStatic(c.getModifiers()), c.getSimpleName() + " is static");
-            check(c.getDeclaredFields().length <= 20, c.getSimpleName() + " has at most twenty fields");
-            for (Method m : c.getDeclaredMethods()) {
-                check(!openNames().contains(m.getName()), m.getName() + " isn't named as one of the face");
-            }
+            check(isClosed(c.getModifiers()), c.getSimpleName() + " is private or package-visible");
+            fieldsAndMethods(c);
         }
-        for (Method m : BeadLoom.class.getDeclaredMethods()) {
+        fieldsAndMethods(BeadLoom.class);
+    }
+
+    private static void fieldsAndMethods(Class<?> c) {
+        int fields = 0;
+        for (Field f : c.getDeclaredFields()) {
+            boolean isStatic = Modifier.isStatic(f.getModifiers());
+            check(!isStatic || Modifier.isFinal(f.getModifiers()), f.getName() + " is final");
+            fields += isStatic ? 0 : 1;
+        }
+        check(fields <= 20, c.getSimpleName() + " has at most twenty fields beside its constants");
+        for (Method m : c.getDeclaredMethods()) {
             boolean isPrivate = Modifier.isPrivate(m.getModifiers());
             check(!isPrivate || !openNames().contains(m.getName()), m.getName() + " isn't named as one of the face");
             check(m.getParameterCount() <= 7, m.getName() + " takes at most seven parameters");
         }
     }
 
-    private static void staticsAreFinal() {
-        for (Field f : BeadLoom.class.getDeclaredFields()) {
-            boolean isStatic = Modifier.isStatic(f.getModifiers());
-            check(!isStatic || Modifier.isFinal(f.getModifiers()), f.getName() + " is final");
-        }
+    private static String withoutCommentsAndTexts(String text) {
+        return text.replaceAll("(?s)/\\*.*?\\*/", "").replaceAll("//[^\n]*", "")
+            .replaceAll("\"(\\\\.|[^\"\\\\])*\"", "TEXT").replaceAll("'(\\\\.|[^'\\\\])+'", "CHARACTER");
     }
 
-    private static String withoutComments(String text) {
-        return text.replaceAll("(?s)/\\*.*?\\*/", "").replaceAll("//[^\n]*", "");
+    private static void hasNone(String code, String sought) {
+        Matcher found = Pattern.compile(sought).matcher(code);
+        check(!found.find(), "the code does without " + sought);
     }
 
     private static void words() throws IOException {
         String text = Files.readString(SOURCE);
-        String code = withoutComments(text);
-        for (String word : List.of("throw", "throws", "try", "catch", "finally", "synchronized", "assert",
-            "import", "package", "hashCode", "Exception", "Object", "Random", "Thread", "\"", "->", "::")) {
-            String sought = Character.isLetter(word.charAt(0)) ? "\\b" + word + "\\b" : Pattern.quote(word);
-            check(!Pattern.compile(sought).matcher(code).find(), "the code does without " + word);
+        String code = withoutCommentsAndTexts(text);
+        for (String word : List.of("throw", "throws", "try", "catch", "finally", "synchronized", "assert", "package",
+            "protected", "hashCode", "Object", "Thread", "Random", "\\w+Exception", "\\w+Error", "\\w+Exact")) {
+            hasNone(code, "\\b" + word + "\\b");
         }
-        check(!Pattern.compile("\\w*Exact\\b").matcher(code).find(), "no function whose name ends in Exact");
-        check(text.chars().allMatch(c -> c < 128), "the file is of plain characters");
-        Set<String> library = Set.of("Math.min", "Math.floorMod", "System.arraycopy");
-        Matcher used = Pattern.compile("\\b(Math|System|Integer|Long|Arrays|List)\\.\\w+").matcher(code);
-        while (used.find()) {
-            check(library.contains(used.group()), "the library's " + used.group() + " is among those looked at");
-        }
+        hasNone(code, "::");
+        hasNone(code, "\\bstatic\\s*\\{");
+        // An arrow is a lambda's, unless it is that of a switch.
+        hasNone(code.replaceAll("\\b(case\\b[^:;{}>]*|default\\s*)->", ""), "->");
+        check(text.chars().allMatch(c -> c < 256), "the file holds characters 0 to 255 alone");
+    }
+
+    /** Of these classes nothing but what rule 4 names is used. */
+    private static void library() throws IOException {
+        String code = withoutCommentsAndTexts(Files.readString(SOURCE));
+        hasNone(code, "\\bimport\\s+(?!java\\.util\\.(ArrayList|List|Arrays|Iterator);)");
+        hasNone(code, "\\bSystem\\.(?!arraycopy\\b)");
+        hasNone(code, "\\bArrays\\.(?!(copyOf|copyOfRange|fill)\\b)");
+        hasNone(code, "\\bList\\.(?!of\\b)");
+        hasNone(code, "\\bMath\\.(?!(abs|max|min|floorDiv|floorMod|multiplyFull|multiplyHigh)\\b)");
+        hasNone(code, "\\bString\\.");
+        hasNone(code, "\\b(Float|Double|Character|Boolean|Byte|Short|Objects|Runtime|ThreadLocal)\\b");
     }
 
     public static void main(String[] args) throws IOException {
         face();
         classesInside();
-        staticsAreFinal();
         words();
+        library();
         System.out.println(wrong == 0 ? "face and language are as due" : wrong + " are not as due");
         if (wrong != 0) {
             System.exit(1);

@@ -14,6 +14,7 @@ public final class ModelTest {
     private static final int CALLS_OF_SHORT_ROWS = 300;
     private static final int CALLS_OF_LONG_ROWS = 130;
     private static final int NOTHING = -1;
+    private static final int MOST_SECONDS = 60;
 
     private static final class Bead {
         final int number;
@@ -535,7 +536,24 @@ public final class ModelTest {
         }
     }
 
+    /** A call that doesn't end is a fault too: the test then ends all the same. */
+    private static void endInTime() {
+        Thread watch = new Thread(() -> {
+            try {
+                Thread.sleep(MOST_SECONDS * 1000L);
+            } catch (InterruptedException stopped) {
+                return;
+            }
+            System.out.println("a call hasn't ended in " + MOST_SECONDS + " seconds");
+            System.out.flush();
+            Runtime.getRuntime().halt(1);
+        });
+        watch.setDaemon(true);
+        watch.start();
+    }
+
     public static void main(String[] args) {
+        endInTime();
         long[] seen = new long[9];
         // Seeds that lie close together would give runs that begin alike.
         Random seeds = new Random(20261116);

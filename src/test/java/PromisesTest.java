@@ -4,8 +4,9 @@ public final class PromisesTest {
     private static final int MAX = Integer.MAX_VALUE;
     private static final int MIN = Integer.MIN_VALUE;
     private static final int[] WRONG_RACKS = {-1, 8, 9, MAX, MIN};
+    private static final int MOST_SECONDS = 60;
 
-    private static String section = "";
+    private static volatile String section = "";
     private static int wrong = 0;
     private static int checks = 0;
 
@@ -868,7 +869,24 @@ public final class PromisesTest {
         about();
     }
 
+    /** A call that doesn't end is a fault too: the test then ends all the same. */
+    private static void endInTime() {
+        Thread watch = new Thread(() -> {
+            try {
+                Thread.sleep(MOST_SECONDS * 1000L);
+            } catch (InterruptedException stopped) {
+                return;
+            }
+            System.out.println(section + ": a call hasn't ended in " + MOST_SECONDS + " seconds");
+            System.out.flush();
+            Runtime.getRuntime().halt(1);
+        });
+        watch.setDaemon(true);
+        watch.start();
+    }
+
     public static void main(String[] args) {
+        endInTime();
         promises1To9();
         promises10To15();
         promises16To20();
