@@ -14,6 +14,7 @@ import java.util.regex.Pattern;
 /** The public face, and those rules of LANGUAGE.md that can be seen from outside. */
 public final class LanguageTest {
     private static final Path SOURCE = Path.of("src/main/java/BeadLoom.java");
+    private static final Path DOCUMENT = Path.of("../shared/DOC.md");
 
     private static final List<String> FACE = List.of(
         "boolean make(int, int, int)", "boolean lamp(int)", "boolean empty(int)",
@@ -56,9 +57,46 @@ public final class LanguageTest {
         check(BeadLoom.class.getDeclaredConstructors().length == 1, "there is one constructor");
         check(BeadLoom.class.getConstructors().length == 1, "it is public");
         check(BeadLoom.class.getConstructors()[0].getParameterCount() == 0, "it takes nothing");
+        check(BeadLoom.class.getSuperclass() == Object.class, "the class extends none");
+        check(BeadLoom.class.getInterfaces().length == 0, "the class implements none");
         for (Field f : BeadLoom.class.getDeclaredFields()) {
             check(Modifier.isPrivate(f.getModifiers()) || f.getName().equals("NONE"), f.getName() + " is private");
         }
+    }
+
+    private static void constant() throws ReflectiveOperationException {
+        Field none = BeadLoom.class.getField("NONE");
+        check(Modifier.isStatic(none.getModifiers()), "NONE is static");
+        check(Modifier.isFinal(none.getModifiers()), "NONE is final");
+        check(none.getType() == int.class, "NONE is an int");
+        check(none.getInt(null) == -1, "NONE is -1");
+    }
+
+    /** The document's own lines of the face, against what the class has. */
+    private static void faceOfTheDocument() throws IOException {
+        if (!Files.exists(DOCUMENT)) {
+            System.out.println("there is no " + DOCUMENT + " here: whether the face is still its own is not known");
+            return;
+        }
+        String document = Files.readString(DOCUMENT);
+        int from = document.indexOf("```java");
+        int to = document.indexOf("```", from + 1);
+        check(from >= 0 && to > from, "the document shows the face");
+        if (from < 0 || to < from) {
+            return;
+        }
+        Set<String> shown = new TreeSet<>();
+        for (String line : document.substring(from, to).split("\n")) {
+            String member = line.strip();
+            if (member.endsWith(";")) {
+                // Of a parameter the type alone counts.
+                shown.add(member.replaceAll("(int|long|boolean) \\w+(?=[,)])", "$1").replaceAll("^public |;$", ""));
+            }
+        }
+        Set<String> due = new TreeSet<>(FACE);
+        due.add("BeadLoom()");
+        due.add("static final int NONE = -1");
+        check(shown.equals(due), "the document's face is the one that is tested here: " + shown);
     }
 
     private static Set<String> openNames() {
@@ -135,8 +173,10 @@ public final class LanguageTest {
         hasNone(code, "\\b(Float|Double|Character|Boolean|Byte|Short|Objects|Runtime|ThreadLocal)\\b");
     }
 
-    public static void main(String[] args) throws IOException {
+    public static void main(String[] args) throws IOException, ReflectiveOperationException {
         face();
+        constant();
+        faceOfTheDocument();
         classesInside();
         words();
         library();
